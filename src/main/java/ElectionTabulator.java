@@ -1214,8 +1214,6 @@ public final class ElectionTabulator {
                 }
             }
             holder[pile] = NONE;
-            place[pile] = length;
-            came[pile] = round;
             exhausted += units;
             return units;
         }

@@ -101,6 +101,55 @@ final class Check {
         return text.toString();
     }
 
+    /** All that an object tells without a change. */
+    static String dump(ElectionTabulator x) {
+        StringBuilder all = new StringBuilder();
+        for (int what : new int[] {0, 1, 2, 3, 4, 5, 6, 10, 11, 12, 13}) {
+            all.append(x.count(what)).append(' ');
+        }
+        all.append(x.errorPosition()).append(" lot");
+        for (int place = 0; place < x.count(0); place++) {
+            all.append(' ').append(x.count(20 + place));
+        }
+        for (int p = 0; p < x.count(1); p++) {
+            all.append(' ').append(textOf(x, p));
+        }
+        for (int c = 0; c < x.count(0); c++) {
+            all.append(" candidate");
+            for (int what = 0; what < 6; what++) {
+                all.append(' ').append(x.candidate(c, what));
+            }
+        }
+        for (int r = 0; r < x.rounds(); r++) {
+            all.append(" round");
+            for (int what = 0; what < 7; what++) {
+                all.append(' ').append(x.round(r, what));
+            }
+            for (int p = 0; p < x.count(1); p++) {
+                all.append(' ').append(x.where(r, p, 0)).append('*').append(x.where(r, p, 1));
+            }
+        }
+        for (int what = 0; what < 3; what++) {
+            all.append(' ').append(recountOf(x, what));
+        }
+        return all.toString();
+    }
+
+    private static String recountOf(ElectionTabulator x, int what) {
+        try {
+            return String.valueOf(x.recount(what));
+        } catch (IllegalStateException nothingDeclared) {
+            return "undeclared";
+        }
+    }
+
+    /** As fails, and the state is the same afterwards. */
+    static void refuses(ElectionTabulator x, String what, Class<? extends RuntimeException> due, Call call) {
+        String before = dump(x);
+        fails(what, due, call);
+        isText("the state after " + what, dump(x), before);
+    }
+
     static void isText(String what, String got, String want) {
         calls++;
         if (!got.equals(want)) {
