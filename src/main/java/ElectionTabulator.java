@@ -188,7 +188,7 @@ public final class ElectionTabulator {
     }
 
     public int votes(int round, int candidate) throws IndexOutOfBoundsException {
-        return checkedVotes(round, candidate);
+        return checkedVotes(counted().result, round, candidate);
     }
 
     public int round(int round, int what) throws IndexOutOfBoundsException, IllegalArgumentException {
@@ -251,7 +251,7 @@ public final class ElectionTabulator {
     }
 
     public float share(int round, int candidate) throws IndexOutOfBoundsException, ArithmeticException {
-        int units = checkedVotes(round, candidate);
+        int units = checkedVotes(counted().result, round, candidate);
         int total = election.papers() * WHOLE_PAPER;
         if (total <= 0) {
             throw new ArithmeticException("no papers");
@@ -402,7 +402,6 @@ public final class ElectionTabulator {
         return pile >= 0 && pile < election.piles;
     }
 
-    /** Called before every change that can be undone. */
     private void rememberForUndo() {
         history.remember(election);
         isCounted = false;
@@ -416,8 +415,7 @@ public final class ElectionTabulator {
         return present;
     }
 
-    private int checkedVotes(int round, int candidate) {
-        Result result = counted().result;
+    private int checkedVotes(Result result, int round, int candidate) {
         if (!result.hasRound(round)) {
             throw new IndexOutOfBoundsException("no such round");
         }
@@ -920,10 +918,9 @@ public final class ElectionTabulator {
                 reason = BROKEN_BY_LOT;
                 tieRound = NONE;
             }
-            return most ? firstInLot(left) : lastInLot(left);
+            return firstByLot(left, most);
         }
 
-        /** Keeps those of a set that have the most, or the fewest, votes of the set in a round. */
         private int keepExtreme(int set, int round, boolean most) {
             int kept = 0;
             int best = 0;
@@ -942,19 +939,13 @@ public final class ElectionTabulator {
             return kept;
         }
 
-        private int firstInLot(int set) {
-            for (int place = 0; place < election.candidates; place++) {
-                if (contains(set, election.lot[place])) {
-                    return election.lot[place];
-                }
-            }
-            return NONE;
-        }
-
-        private int lastInLot(int set) {
-            for (int place = election.candidates - 1; place >= 0; place--) {
-                if (contains(set, election.lot[place])) {
-                    return election.lot[place];
+        /** Who stands first in the lot gains where the most is looked for, so the fewest is looked for from behind. */
+        private int firstByLot(int set, boolean most) {
+            for (int i = 0; i < election.candidates; i++) {
+                int place = most ? i : election.candidates - 1 - i;
+                int candidate = election.lot[place];
+                if ((set & (1 << candidate)) != 0) {
+                    return candidate;
                 }
             }
             return NONE;
@@ -1060,7 +1051,7 @@ public final class ElectionTabulator {
             System.arraycopy(worth, 0, log.worth[round], 0, PILE_ROWS);
         }
 
-        /** Returns whether another round follows. */
+        /** Answers whether another round follows. */
         private boolean playRound(int round) {
             int seats = election.settings[SEATS];
             electWithQuota(round, seats - result.electedCount);

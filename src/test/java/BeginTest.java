@@ -3,6 +3,7 @@ public final class BeginTest {
     public static void main(String[] args) {
         newObject();
         anotherElection();
+        behindMorePiles();
         whatStays();
         wrongNumbers();
         Check.end();
@@ -44,6 +45,28 @@ public final class BeginTest {
         x.begin(8, 1);
         for (int place = 0; place < 8; place++) {
             Check.is("lot of 8", x.count(20 + place), place);
+        }
+    }
+
+    /** The rows of the piles before must not count in another election. */
+    private static void behindMorePiles() {
+        for (int rule = 0; rule < 2; rule++) {
+            ElectionTabulator x = Check.election(4, 1, "9:ab;9:ab;9:ab;9:ab;");
+            x.set(1, rule);
+            Check.is("all are with a", x.where(x.rounds() - 1, 3, 0), 0);
+            x.begin(4, 2);
+            Check.is("preferring without piles", x.preferring(0, 1), 0);
+            Check.is("points without piles", x.points(0), 0);
+            Check.read(x, "9:ab;3:b;2:c;4:d;");
+            x.undo();
+            Check.read(x, "9:ab;3:b;6:c;");
+            ElectionTabulator fresh = Check.election(4, 2);
+            fresh.set(1, rule);
+            fresh.begin(4, 2);
+            Check.read(fresh, "9:ab;3:b;6:c;");
+            Check.is("preferring", x.preferring(0, 1), 9);
+            Check.is("what happened", x.round(0, 3), 1);
+            Check.isText("the same as in a fresh election", Check.dump(x), Check.dump(fresh));
         }
     }
 

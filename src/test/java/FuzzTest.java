@@ -187,10 +187,7 @@ public final class FuzzTest {
             told.append(' ').append(number);
         }
         story.add(told + " -> " + there);
-        if (!here.equals(there)) {
-            Check.tell(told + " answered " + here + ", the oracle " + there + ", after " + story);
-        }
-        Check.is("call", 0, 0);
+        Check.isText(here.equals(there) ? told.toString() : told + " after " + story, here, there);
         return 1;
     }
 

@@ -31,7 +31,8 @@ public final class PilesTest {
             Check.refuses(x, "pile(" + p + ", 0)", IndexOutOfBoundsException.class, () -> x.pile(p, 0));
             Check.refuses(x, "pile(" + p + ", 2)", IndexOutOfBoundsException.class, () -> x.pile(p, 2));
         }
-        for (int what : new int[] {-1, 2, 9, 12, 17, 18, Integer.MAX_VALUE, Integer.MIN_VALUE, Integer.MIN_VALUE + 10}) {
+        int least = Integer.MIN_VALUE;
+        for (int what : new int[] {-1, 2, 9, 12, 17, 18, Integer.MAX_VALUE, least, least + 10}) {
             Check.refuses(x, "pile(0, " + what + ")", IllegalArgumentException.class, () -> x.pile(0, what));
         }
         Check.refuses(x, "pile(1, 18)", IllegalArgumentException.class, () -> x.pile(1, 18));
