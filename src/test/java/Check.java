@@ -143,11 +143,63 @@ final class Check {
         }
     }
 
+    /** A round: quota, exhausted, lost, event, subject, moved, elected; then the votes. */
+    static void round(ElectionTabulator x, int round, int[] numbers, int... votes) {
+        for (int what = 0; what < 7; what++) {
+            is("round(" + round + ", " + what + ")", x.round(round, what), numbers[what]);
+        }
+        for (int c = 0; c < votes.length; c++) {
+            is("votes(" + round + ", " + c + ")", x.votes(round, c), votes[c]);
+        }
+    }
+
+    /** Where the piles are in a round: holder and worth of each. */
+    static void where(ElectionTabulator x, int round, int... places) {
+        for (int p = 0; 2 * p < places.length; p++) {
+            is("where(" + round + ", " + p + ", 0)", x.where(round, p, 0), places[2 * p]);
+            is("where(" + round + ", " + p + ", 1)", x.where(round, p, 1), places[2 * p + 1]);
+        }
+    }
+
+    /** Of a candidate: status, round, place, reason, round of the tie, votes at last. */
+    static void fate(ElectionTabulator x, int candidate, int... numbers) {
+        for (int what = 0; what < 6; what++) {
+            is("candidate(" + candidate + ", " + what + ")", x.candidate(candidate, what), numbers[what]);
+        }
+    }
+
+    /** All that are elected, in their order. */
+    static void order(ElectionTabulator x, int... candidates) {
+        for (int place = 0; place < candidates.length; place++) {
+            is("elected(" + place + ")", x.elected(place), candidates[place]);
+        }
+        is("number of elected", x.count(3), candidates.length);
+    }
+
+    static int[] row(int... numbers) {
+        return numbers;
+    }
+
     /** As fails, and the state is the same afterwards. */
     static void refuses(ElectionTabulator x, String what, Class<? extends RuntimeException> due, Call call) {
         String before = dump(x);
         fails(what, due, call);
         isText("the state after " + what, dump(x), before);
+    }
+
+    /** The text is refused at a position; but for the error position nothing is different, and the buffer is empty. */
+    static void errorAt(ElectionTabulator x, String text, int position) {
+        is("buffer before " + text, x.count(6), 0);
+        String before = dumpWithoutError(x);
+        type(x, text);
+        illegalArgument("execute of " + text, x::execute);
+        is("error position in " + text, x.errorPosition(), position);
+        is("buffer after " + text, x.count(6), 0);
+        isText("state after " + text, dumpWithoutError(x), before);
+    }
+
+    private static String dumpWithoutError(ElectionTabulator x) {
+        return dump(x).replaceFirst(" " + x.errorPosition() + " lot", " lot");
     }
 
     static void isText(String what, String got, String want) {

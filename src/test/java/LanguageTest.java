@@ -19,7 +19,8 @@ public final class LanguageTest {
             for (String wrong : RULED_OUT) {
                 Check.is(place + " has " + wrong, line.contains(wrong) ? 1 : 0, 0);
             }
-            boolean rightImport = !line.startsWith("import ") || line.equals("import java.util.NoSuchElementException;");
+            boolean rightImport = !line.startsWith("import ")
+                || line.equals("import java.util.NoSuchElementException;");
             Check.is(place + " imports what it may", rightImport ? 1 : 0, 1);
             Check.is(place + " has a package", line.startsWith("package ") ? 1 : 0, 0);
             for (int k = 0; k < line.length(); k++) {

@@ -16,48 +16,26 @@ public final class RoundsTest {
         Check.end();
     }
 
-    /** A round: quota, exhausted, lost, event, subject, moved, elected; then the votes. */
-    private static void round(ElectionTabulator x, int round, int[] numbers, int... votes) {
-        for (int what = 0; what < 7; what++) {
-            Check.is("round(" + round + ", " + what + ")", x.round(round, what), numbers[what]);
-        }
-        for (int c = 0; c < votes.length; c++) {
-            Check.is("votes(" + round + ", " + c + ")", x.votes(round, c), votes[c]);
-        }
-    }
-
-    /** Where the piles are in a round: holder and worth of each. */
-    private static void where(ElectionTabulator x, int round, int... places) {
-        for (int p = 0; 2 * p < places.length; p++) {
-            Check.is("where(" + round + ", " + p + ", 0)", x.where(round, p, 0), places[2 * p]);
-            Check.is("where(" + round + ", " + p + ", 1)", x.where(round, p, 1), places[2 * p + 1]);
-        }
-    }
-
-    private static int[] row(int... numbers) {
-        return numbers;
-    }
-
     private static void wholeCount() {
         ElectionTabulator x = Check.election(4, 2, "9:abc;3:ba;4:cd;2:d;1:bd;");
         Check.is("rounds", x.rounds(), 4);
-        round(x, 0, row(70000, 0, 0, 1, 0, 19998, 1), 90000, 40000, 40000, 20000);
-        round(x, 1, row(70000, 0, 2, 2, 3, 20000, 0), 70000, 59998, 40000, 20000);
-        round(x, 2, row(70000, 20000, 2, 2, 2, 40000, 0), 70000, 59998, 40000, 0);
-        round(x, 3, row(70000, 60000, 2, 0, -1, 0, 2), 70000, 59998, 0, 0);
-        where(x, 0, 0, 10000, 1, 10000, 2, 10000, 3, 10000, 1, 10000);
-        where(x, 1, 1, 2222, 1, 10000, 2, 10000, 3, 10000, 1, 10000);
-        where(x, 2, 1, 2222, 1, 10000, 2, 10000, -1, 10000, 1, 10000);
-        where(x, 3, 1, 2222, 1, 10000, -1, 10000, -1, 10000, 1, 10000);
+        Check.round(x, 0, Check.row(70000, 0, 0, 1, 0, 19998, 1), 90000, 40000, 40000, 20000);
+        Check.round(x, 1, Check.row(70000, 0, 2, 2, 3, 20000, 0), 70000, 59998, 40000, 20000);
+        Check.round(x, 2, Check.row(70000, 20000, 2, 2, 2, 40000, 0), 70000, 59998, 40000, 0);
+        Check.round(x, 3, Check.row(70000, 60000, 2, 0, -1, 0, 2), 70000, 59998, 0, 0);
+        Check.where(x, 0, 0, 10000, 1, 10000, 2, 10000, 3, 10000, 1, 10000);
+        Check.where(x, 1, 1, 2222, 1, 10000, 2, 10000, 3, 10000, 1, 10000);
+        Check.where(x, 2, 1, 2222, 1, 10000, 2, 10000, -1, 10000, 1, 10000);
+        Check.where(x, 3, 1, 2222, 1, 10000, -1, 10000, -1, 10000, 1, 10000);
     }
 
     private static void firstPileIsExcluded() {
         ElectionTabulator x = Check.election(3, 1, "1:cb;3:a;2:b;!bac;");
-        round(x, 0, row(40000, 0, 0, 2, 2, 10000, 0), 30000, 20000, 10000);
-        round(x, 1, row(40000, 0, 0, 2, 1, 30000, 0), 30000, 30000, 0);
-        where(x, 1, 1, 10000, 0, 10000, 1, 10000);
-        where(x, 2, -1, 10000, 0, 10000, -1, 10000);
-        round(x, 2, row(40000, 30000, 0, 0, -1, 0, 1), 30000, 0, 0);
+        Check.round(x, 0, Check.row(40000, 0, 0, 2, 2, 10000, 0), 30000, 20000, 10000);
+        Check.round(x, 1, Check.row(40000, 0, 0, 2, 1, 30000, 0), 30000, 30000, 0);
+        Check.where(x, 1, 1, 10000, 0, 10000, 1, 10000);
+        Check.where(x, 2, -1, 10000, 0, 10000, -1, 10000);
+        Check.round(x, 2, Check.row(40000, 30000, 0, 0, -1, 0, 1), 30000, 0, 0);
     }
 
     private static void quotas() {
@@ -109,50 +87,50 @@ public final class RoundsTest {
         ElectionTabulator x = Check.election(3, 2, "5:ab;5:b;1:c;");
         x.set(0, 3);
         Check.is("rounds", x.rounds(), 1);
-        round(x, 0, row(36667, 0, 0, 0, -1, 0, 3), 50000, 50000, 10000);
+        Check.round(x, 0, Check.row(36667, 0, 0, 0, -1, 0, 3), 50000, 50000, 10000);
         ElectionTabulator y = Check.election(4, 2, "6:abc;5:b;5:cb;3:d;");
         y.set(0, 3);
-        round(y, 0, row(63334, 0, 0, 2, 3, 30000, 0), 60000, 50000, 50000, 30000);
-        round(y, 1, row(53334, 30000, 0, 1, 0, 6666, 1), 60000, 50000, 50000, 0);
-        round(y, 2, row(53334, 30000, 0, 0, -1, 0, 2), 53334, 56666, 50000, 0);
+        Check.round(y, 0, Check.row(63334, 0, 0, 2, 3, 30000, 0), 60000, 50000, 50000, 30000);
+        Check.round(y, 1, Check.row(53334, 30000, 0, 1, 0, 6666, 1), 60000, 50000, 50000, 0);
+        Check.round(y, 2, Check.row(53334, 30000, 0, 0, -1, 0, 2), 53334, 56666, 50000, 0);
         Check.is("rounds", y.rounds(), 3);
     }
 
     private static void lastParcelOfARound() {
         ElectionTabulator x = Check.election(4, 2, "5:ab;4:cad;0:cab;6:b;6:d;");
-        round(x, 1, row(80000, 0, 0, 1, 0, 9999, 1), 90000, 60000, 0, 60000);
-        where(x, 2, 1, 1111, 3, 1111, 1, 1111, 1, 10000, 3, 10000);
+        Check.round(x, 1, Check.row(80000, 0, 0, 1, 0, 9999, 1), 90000, 60000, 0, 60000);
+        Check.where(x, 2, 1, 1111, 3, 1111, 1, 1111, 1, 10000, 3, 10000);
         x.set(1, 1);
         Check.is("rounds", x.rounds(), 4);
-        round(x, 0, row(80000, 0, 0, 2, 2, 40000, 0), 50000, 60000, 40000, 60000);
-        where(x, 1, 0, 10000, 0, 10000, 0, 10000, 1, 10000, 3, 10000);
-        round(x, 1, row(80000, 0, 0, 1, 0, 10000, 1), 90000, 60000, 0, 60000);
-        where(x, 2, 0, 10000, 3, 2500, 1, 2500, 1, 10000, 3, 10000);
-        round(x, 2, row(80000, 0, 0, 2, 1, 60000, 0), 80000, 60000, 0, 70000);
-        where(x, 3, 0, 10000, 3, 2500, -1, 2500, -1, 10000, 3, 10000);
-        round(x, 3, row(80000, 60000, 0, 0, -1, 0, 8), 80000, 0, 0, 70000);
+        Check.round(x, 0, Check.row(80000, 0, 0, 2, 2, 40000, 0), 50000, 60000, 40000, 60000);
+        Check.where(x, 1, 0, 10000, 0, 10000, 0, 10000, 1, 10000, 3, 10000);
+        Check.round(x, 1, Check.row(80000, 0, 0, 1, 0, 10000, 1), 90000, 60000, 0, 60000);
+        Check.where(x, 2, 0, 10000, 3, 2500, 1, 2500, 1, 10000, 3, 10000);
+        Check.round(x, 2, Check.row(80000, 0, 0, 2, 1, 60000, 0), 80000, 60000, 0, 70000);
+        Check.where(x, 3, 0, 10000, 3, 2500, -1, 2500, -1, 10000, 3, 10000);
+        Check.round(x, 3, Check.row(80000, 60000, 0, 0, -1, 0, 8), 80000, 0, 0, 70000);
     }
 
     private static void lastParcelOfTheBeginning() {
         ElectionTabulator x = Check.election(4, 2, "6:ab;5:b;5:d;0:cab;3:c;0:ad;");
         x.set(0, 3);
         x.set(1, 1);
-        round(x, 1, row(53334, 30000, 0, 1, 0, 6666, 1), 60000, 50000, 0, 50000);
-        where(x, 1, 0, 10000, 1, 10000, 3, 10000, 0, 10000, -1, 10000, 0, 10000);
+        Check.round(x, 1, Check.row(53334, 30000, 0, 1, 0, 6666, 1), 60000, 50000, 0, 50000);
+        Check.where(x, 1, 0, 10000, 1, 10000, 3, 10000, 0, 10000, -1, 10000, 0, 10000);
         // The pile without papers that came in round 0 stays; the one of the beginning goes on.
-        where(x, 2, 1, 1111, 1, 10000, 3, 10000, 0, 10000, -1, 10000, 3, 1111);
-        round(x, 2, row(53334, 30000, 0, 0, -1, 0, 2), 53334, 56666, 0, 50000);
+        Check.where(x, 2, 1, 1111, 1, 10000, 3, 10000, 0, 10000, -1, 10000, 3, 1111);
+        Check.round(x, 2, Check.row(53334, 30000, 0, 0, -1, 0, 2), 53334, 56666, 0, 50000);
     }
 
     private static void atMostTheWorth() {
         ElectionTabulator x = Check.election(4, 2, "6:ab;5:b;5:d;1:ca;3:c;");
         x.set(0, 3);
         x.set(1, 1);
-        round(x, 0, row(66667, 0, 0, 2, 2, 40000, 0), 60000, 50000, 40000, 50000);
-        round(x, 1, row(56667, 30000, 0, 1, 0, 10000, 1), 70000, 50000, 0, 50000);
-        where(x, 2, 0, 10000, 1, 10000, 3, 10000, -1, 10000, -1, 10000);
-        round(x, 2, row(52223, 40000, 3333, 2, 3, 50000, 0), 56667, 50000, 0, 50000);
-        round(x, 3, row(35556, 90000, 3333, 0, -1, 0, 2), 56667, 50000, 0, 0);
+        Check.round(x, 0, Check.row(66667, 0, 0, 2, 2, 40000, 0), 60000, 50000, 40000, 50000);
+        Check.round(x, 1, Check.row(56667, 30000, 0, 1, 0, 10000, 1), 70000, 50000, 0, 50000);
+        Check.where(x, 2, 0, 10000, 1, 10000, 3, 10000, -1, 10000, -1, 10000);
+        Check.round(x, 2, Check.row(52223, 40000, 3333, 2, 3, 50000, 0), 56667, 50000, 0, 50000);
+        Check.round(x, 3, Check.row(35556, 90000, 3333, 0, -1, 0, 2), 56667, 50000, 0, 0);
     }
 
     private static void parcelWithoutWorth() {
@@ -160,24 +138,25 @@ public final class RoundsTest {
         x.set(0, 3);
         x.set(1, 1);
         Check.is("rounds", x.rounds(), 8);
-        round(x, 0, row(854001, 0, 0, 1, 0, 5934, 1), 860000, 850000, 840000, 360000);
-        round(x, 1, row(853988, 0, 65, 1, 1, 0, 2), 854001, 854002, 840000, 361932);
+        Check.round(x, 0, Check.row(854001, 0, 0, 1, 0, 5934, 1), 860000, 850000, 840000, 360000);
+        Check.round(x, 1, Check.row(853988, 0, 65, 1, 1, 0, 2), 854001, 854002, 840000, 361932);
         Check.is("worth", x.where(1, 0, 1), 69);
         Check.is("worth rounded down to 0", x.where(2, 0, 1), 0);
-        round(x, 4, row(783985, 350000, 79, 1, 2, 0, 4), 854001, 853988, 840000, 361932, 350000, 0, 660000, 0);
-        round(x, 5, row(772782, 350000, 56094, 2, 4, 350000, 0), 854001, 853988, 783985, 361932);
-        where(x, 5, -1, 0, 3, 69, 1, 10000, 2, 10000);
+        Check.round(x, 4, Check.row(783985, 350000, 79, 1, 2, 0, 4), 854001, 853988, 840000, 361932, 350000, 0, 660000,
+            0);
+        Check.round(x, 5, Check.row(772782, 350000, 56094, 2, 4, 350000, 0), 854001, 853988, 783985, 361932);
+        Check.where(x, 5, -1, 0, 3, 69, 1, 10000, 2, 10000);
     }
 
     private static void mostVotesFirst() {
         ElectionTabulator x = Check.election(5, 3, "9:bd;7:ae;1:c;1:d;1:e;");
         Check.is("first", x.elected(0), 1);
         Check.is("second", x.elected(1), 0);
-        round(x, 0, row(50000, 0, 0, 1, 1, 39996, 3), 70000, 90000, 10000, 10000, 10000);
-        round(x, 1, row(50000, 0, 4, 1, 0, 19999, 0), 70000, 50000, 10000, 49996, 10000);
-        round(x, 2, row(50000, 0, 5, 2, 2, 10000, 0), 50000, 50000, 10000, 49996, 29999);
-        round(x, 3, row(50000, 10000, 5, 2, 4, 29999, 0), 50000, 50000, 0, 49996, 29999);
-        round(x, 4, row(50000, 39999, 5, 0, -1, 0, 8), 50000, 50000, 0, 49996, 0);
+        Check.round(x, 0, Check.row(50000, 0, 0, 1, 1, 39996, 3), 70000, 90000, 10000, 10000, 10000);
+        Check.round(x, 1, Check.row(50000, 0, 4, 1, 0, 19999, 0), 70000, 50000, 10000, 49996, 10000);
+        Check.round(x, 2, Check.row(50000, 0, 5, 2, 2, 10000, 0), 50000, 50000, 10000, 49996, 29999);
+        Check.round(x, 3, Check.row(50000, 10000, 5, 2, 4, 29999, 0), 50000, 50000, 0, 49996, 29999);
+        Check.round(x, 4, Check.row(50000, 39999, 5, 0, -1, 0, 8), 50000, 50000, 0, 49996, 0);
         Check.is("rounds", x.rounds(), 5);
         ElectionTabulator y = Check.election(4, 3, "1:c;2:b;3:d;");
         y.set(0, 1);

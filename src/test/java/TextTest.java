@@ -75,13 +75,7 @@ public final class TextTest {
     }
 
     private static void error(int candidates, String[] before, String text, int position) {
-        ElectionTabulator x = Check.election(candidates, 1, before);
-        String state = Check.dump(x);
-        Check.type(x, text);
-        Check.illegalArgument("execute of " + text, x::execute);
-        Check.is("error position in " + text, x.errorPosition(), position);
-        Check.is("buffer after " + text, x.count(6), 0);
-        Check.isText("state after " + text, Check.dump(x).replace(" " + position + " lot", " -1 lot"), state);
+        Check.errorAt(Check.election(candidates, 1, before), text, position);
     }
 
     private static void error(String text, int position) {
